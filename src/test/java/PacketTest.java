@@ -471,7 +471,7 @@ public final class PacketTest {
         longestWriting();
     }
 
-    /** Eight words of six signs cannot be said, but come up to 59 signs. */
+    /** What is repeated can be longer than what the pad holds. */
     private static void longestWriting() {
         PathWords x = new PathWords();
         String[] calls = {"AAA", "BBB", "CCC", "DDD", "EEE", "FFF"};

@@ -132,11 +132,10 @@ public final class PadTest {
 
     /** Each beginning of a good packet wants just one thing more. */
     private static void faultsOfPrefixes() {
-        PathWords x = new PathWords();
         for (String text : GOOD) {
             int colon = text.indexOf(':');
             for (int n = 0; n <= colon + 1; n++) {
-                fault(x, text.substring(0, n), n);
+                fault(new PathWords(), text.substring(0, n), n);
             }
         }
     }
