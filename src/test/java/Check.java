@@ -2,15 +2,25 @@
 final class Check {
     private static int wrong = 0;
     private static int asked = 0;
+    private static String test = "";
 
     private Check() {
+    }
+
+    /** Names the test whose answers come next. */
+    static void within(String name) {
+        test = name.isEmpty() ? "" : name + ": ";
+    }
+
+    static int asked() {
+        return asked;
     }
 
     static void due(String call, long got, long want) {
         asked++;
         if (got != want) {
             wrong++;
-            System.out.println(call + " answered " + got + ", due is " + want);
+            System.out.println(test + call + " answered " + got + ", due is " + want);
         }
     }
 
@@ -18,7 +28,7 @@ final class Check {
         asked++;
         if (!got.equals(want)) {
             wrong++;
-            System.out.println(call + " answered " + got + ", due is " + want);
+            System.out.println(test + call + " answered " + got + ", due is " + want);
         }
     }
 
