@@ -345,6 +345,50 @@ public final class ImageEdgeTest {
         }
     }
 
+    static void p19TheLastComesBack() {
+        PathWords x = pair();
+        x.run(3);
+        Check.send(x, 0, "QR>A-2*,X-3,F*:abc");
+        x.run(1);
+        x.image(0);
+        x.run(2);
+        Check.send(x, 0, "S>C*,Y:d");
+        x.run(1);
+        Check.due("another", Check.written(x, 1), "S>C*,Y:d");
+        x.image(1);
+        x.restore(0);
+        Check.due("the last", Check.written(x, 1), "QR>A-2*,X-3,F*:abc");
+        int[] due = {3, 2, 3, 3};
+        for (int what = 0; what <= 3; what++) {
+            Check.due("last(1, " + what + ")", x.last(1, what), due[what]);
+        }
+        Check.due("trail", x.trail(1, 1), 5);
+        x.restore(1);
+        Check.due("the other", Check.written(x, 1), "S>C*,Y:d");
+        Check.due("its tick", x.last(1, 2), 6);
+    }
+
+    static void p19WhoseItIsThatIsKnownComesBack() {
+        PathWords x = pair();
+        Check.send(x, 0, "Q>:a");
+        x.run(1);
+        x.image(0);
+        x.set(1, 2, 0);
+        Check.send(x, 0, "R>:b");
+        x.run(1);
+        Check.due("R alone", x.heard(1, 10), 1);
+        x.restore(0);
+        String[] packets = {"R>:a", "Q>:b", "R>:b"};
+        for (String packet : packets) {
+            Check.send(x, 0, packet);
+            x.run(1);
+            Check.due("no double", x.heard(1, 3), 0);
+        }
+        Check.send(x, 0, "Q>:a");
+        x.run(1);
+        Check.due("a double", x.heard(1, 3), 1);
+    }
+
     private static String told(PathWords x, int s) {
         return Check.tallies(x, s) + " " + x.last(s, 0) + " " + x.last(s, 1) + " " + x.last(s, 2) + " " + x.last(s, 3)
                 + " " + x.trail(s, 0) + " " + x.written(s, -1) + " " + x.written(s, 0) + " " + x.written(s, 2);

@@ -228,6 +228,25 @@ public final class PacketEdgeTest {
         Check.due("none, 11 ticks later", x.heard(0, 3), 1);
     }
 
+    static void p09WhatIsKnownBesidesStaysAsItWas() {
+        PathWords x = pair();
+        send(x, 0, "Q>:a");
+        x.run(2);
+        send(x, 0, "R>:b");
+        x.run(1);
+        send(x, 0, "Q>:a");
+        x.run(8);
+        send(x, 1, "Q>:b");
+        x.run(1);
+        Check.due("another source", x.heard(0, 4), 1);
+        send(x, 1, "R>:b");
+        x.run(1);
+        Check.due("R came 10 ticks ago", x.heard(0, 3), 1);
+        send(x, 1, "R>:b");
+        x.run(1);
+        Check.due("R came 11 ticks ago", x.heard(0, 3), 1);
+    }
+
     static void p09KnownFromNowThoughItIsSentLater() {
         PathWords x = twelve(0);
         x.run(1);

@@ -442,6 +442,19 @@ public final class ReachEdgeTest {
         }
     }
 
+    static void p17EachStationCanBeABridge() {
+        for (int bridge = 0; bridge < 6; bridge++) {
+            PathWords x = new PathWords();
+            int from = (bridge + 1) % 6;
+            int to = (bridge + 5) % 6;
+            Check.join(x, from, bridge, bridge, to);
+            Check.flood(x, bridge, "W");
+            Check.type(x, "W");
+            Check.due("bridges by " + bridge, x.bridges(from, to, 1), 1 << bridge);
+            Check.due("fewest", x.fewest(from, to), 1);
+        }
+    }
+
     static void p17TwoWaysNeedNeither() {
         PathWords x = new PathWords();
         Check.join(x, 0, 1, 0, 2, 1, 3, 2, 3, 3, 4);

@@ -80,6 +80,22 @@ public final class TickEdgeTest {
         }
     }
 
+    static void p10Terms2aWhatStaysKeepsItsOwnTick() {
+        PathWords x = pair();
+        x.set(1, 1, 2);
+        Check.send(x, 0, "Q>B:a");
+        x.run(1);
+        x.set(1, 1, 3);
+        Check.send(x, 0, "Q>B:b");
+        x.run(1);
+        // a is due at 2, b at 4.
+        Check.due("a goes at 2", x.run(1), 1);
+        Check.due("none at 3", x.run(1), 1);
+        Check.due("b goes at 4", x.run(1), 0);
+        Check.due("heard at", x.last(0, 2), 4);
+        Check.due("b", Check.written(x, 0), "Q>B*:b");
+    }
+
     // ---- (b) what is heard
 
     static void p10Terms2bASenderHearsNothing() {
@@ -235,6 +251,29 @@ public final class TickEdgeTest {
         Check.due("c, d and e", x.heard(1, 10), 3);
     }
 
+    static void p10Terms2cWhatStaysIsKnownByItsSourceTextAndTick() {
+        PathWords x = pair();
+        Check.send(x, 0, "Q>:a");
+        x.run(4);
+        Check.send(x, 0, "R>:b");
+        x.run(7);
+        Check.send(x, 0, "S>:c");
+        x.run(1);
+        Check.due("Q went", x.heard(1, 10), 2);
+        Check.send(x, 0, "Q>:b");
+        x.run(1);
+        Check.due("another source", x.heard(1, 4), 4);
+        Check.send(x, 0, "R>:c");
+        x.run(1);
+        Check.due("another text", x.heard(1, 4), 5);
+        Check.send(x, 0, "R>:b");
+        x.run(1);
+        Check.due("R came 10 ticks ago", x.heard(1, 3), 1);
+        Check.send(x, 0, "R>:b");
+        x.run(1);
+        Check.due("R came 11 ticks ago", x.heard(1, 3), 1);
+    }
+
     static void p10Terms2cOldOnesGoAsADoubleIsHeard() {
         PathWords x = pair();
         Check.send(x, 0, "Q>:a");
@@ -305,6 +344,23 @@ public final class TickEdgeTest {
         Check.send(x, 0, "Q>:b");
         x.run(1);
         Check.due("the second went for it", x.heard(1, 3), 2);
+    }
+
+    static void p10Terms2cBehindTheFirstThatGoesAllKeepTheirTicks() {
+        PathWords x = knowing(17);
+        // Tick 17: b came at 1, c at 2.
+        x.run(42);
+        Check.send(x, 0, "Q>:c");
+        x.run(1);
+        Check.due("c came 57 ticks ago", x.heard(1, 3), 1);
+        x.run(1);
+        Check.send(x, 0, "Q>:b");
+        x.run(1);
+        Check.due("b came 60 ticks ago", x.heard(1, 3), 2);
+        Check.send(x, 0, "Q>:b");
+        x.run(1);
+        Check.due("61 ticks ago", x.heard(1, 3), 2);
+        Check.due("a went, b came anew", x.heard(1, 10), 16);
     }
 
     static void p10Terms2cADoubleAndItsOwnPushNoneOut() {
